@@ -506,12 +506,12 @@ public final class MonotonePostings {
         }
 
         private void chooseEnd(Postings postings, int start) {
-            int least = Integer.MAX_VALUE;
+            int least = 0;
             for (int end = start + 1; end <= postings.count; end++) {
                 int size = Shape.bestSize(end - start, postings.widthBetween(start, end));
                 int weight = size * SIZE_UNIT + 1 + weights[end];
                 // Only a lighter one replaces it, so that the shortest first partition stays.
-                if (weight < least) {
+                if (end == start + 1 || weight < least) {
                     least = weight;
                     ends[start] = end;
                 }

@@ -226,6 +226,13 @@ public final class PromisesTest {
         CHECK.is("partitions(3), the fewest of equal ones", x.partitions(3), 1);
         x.append(3, 26);
         CHECK.is("partitions(3), one bit more", x.partitions(3), 2);
+        // 2 to 8 and then 16 and 89: 16 can go with either for 67 bits, so the run stays short.
+        x.clear(0);
+        x.appendRange(0, 2, 1, 7);
+        x.appendRange(0, 16, 73, 2);
+        CHECK.is("codeLength(0), two possibilities", x.codeLength(0), 67);
+        CHECK.is("partitions(0), two possibilities", x.partitions(0), 2);
+        CHECK.is("partition(0, 0, 1), the fewest documents", x.partition(0, 0, 1), 7);
     }
 
     private static void partition() {
@@ -369,14 +376,14 @@ public final class PromisesTest {
     }
 
     private static void nextAtLeastInBitmap() {
-        // One bitmap, 200 to 232: bits 0, 1, 15, 16 and 32, and more to keep it one bitmap.
-        int[][] due = {{201, 201, 2}, {202, 215, 3}, {207, 215, 3}, {208, 215, 2}, {215, 215, 2},
-            {216, 216, 2}, {217, 224, 3}, {224, 224, 2}, {225, 225, 2}, {232, 232, 2}};
+        // One bitmap from 203 on: the bits 0, 1, 15, 16 and 24 to 32, in five bytes.
+        int[][] due = {{204, 204, 2}, {205, 218, 3}, {210, 218, 3}, {211, 218, 2}, {218, 218, 2},
+            {219, 219, 2}, {220, 227, 3}, {227, 227, 2}, {228, 228, 2}, {235, 235, 2}};
         for (int[] d : due) {
             MonotonePostings x = new MonotonePostings();
-            x.appendRange(3, 200, 1, 2);
-            x.appendRange(3, 215, 1, 2);
-            x.appendRange(3, 224, 1, 9);
+            x.appendRange(3, 203, 1, 2);
+            x.appendRange(3, 218, 1, 2);
+            x.appendRange(3, 227, 1, 9);
             CHECK.is("partition(3, 0, 0)", x.partition(3, 0, 0), 1);
             CHECK.is("partitions(3)", x.partitions(3), 1);
             CHECK.is("nextAtLeast(3, " + d[0] + ")", x.nextAtLeast(3, d[0]), d[1]);
