@@ -20,11 +20,10 @@ public final class ModelTest {
         for (int i = 0; i < CALLS; i++) {
             int before = random.nextInt();
             String where = "run " + run + ", call " + i + ": ";
-            String[] got = call(new Random(before), x, m, run);
+            // Every 16th of the 512 calls is a digest, so that a wrong state does not stay hidden.
+            String[] got = i % 16 == 15 ? told("digest", x::digest, m::digest)
+                    : call(new Random(before), x, m, run);
             CHECK.same(where + got[0], got[1], got[2]);
-            if (i % 16 == 15) {
-                CHECK.is(where + "digest()", x.digest(), m.digest());
-            }
         }
     }
 

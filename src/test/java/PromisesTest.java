@@ -39,45 +39,16 @@ public final class PromisesTest {
         CHECK.end();
     }
 
-    private static void hash(MonotonePostings x, String when, int... values) {
-        long h = 2791;
-        for (int v : values) {
-            h = 31 * h + v;
-        }
-        CHECK.is("digest() " + when, x.digest(), h);
-    }
-
-    private static void bits(MonotonePostings x, int list, String due) {
-        StringBuilder got = new StringBuilder();
-        for (int i = 0; i < x.codeLength(list); i++) {
-            got.append(x.codeBit(list, i));
-        }
-        CHECK.same("the code of list " + list, got.toString(), due.replace(" ", ""));
-    }
-
-    private static void documents(MonotonePostings x, int list, int... due) {
-        CHECK.is("size of list " + list, x.size(list), due.length);
-        for (int i = 0; i < due.length && i < x.size(list); i++) {
-            CHECK.is("document " + i + " of list " + list, x.document(list, i), due[i]);
-        }
-    }
-
-    private static void counters(MonotonePostings x, String when, int reads, int hits, int cached) {
-        CHECK.is("reads() " + when, x.reads(), reads);
-        CHECK.is("hits() " + when, x.hits(), hits);
-        CHECK.is("cached() " + when, x.cached(), cached);
-    }
-
     private static void newObject() {
         MonotonePostings x = new MonotonePostings();
         for (int list = 0; list < 4; list++) {
             CHECK.is("size of a new list", x.size(list), 0);
             CHECK.is("partitions of a new list", x.partitions(list), 0);
         }
-        counters(x, "of a new object", 0, 0, 0);
+        CHECK.counters(x, "of a new object", 0, 0, 0);
         CHECK.is("the first capacity", x.setCapacity(8), 4);
         CHECK.is("NONE", MonotonePostings.NONE, -1);
-        hash(new MonotonePostings(), "of a new object", 0, 0, 0, 0, 0, 0, 0, 0, 4, 0, 0, 0, 0);
+        CHECK.hash(new MonotonePostings(), "of a new object", 0, 0, 0, 0, 0, 0, 0, 0, 4, 0, 0, 0, 0);
         MonotonePostings y = new MonotonePostings();
         y.append(0, 1);
         CHECK.is("another object's list", x.size(0), 0);
@@ -90,7 +61,7 @@ public final class PromisesTest {
         }
         CHECK.is("append(3, 0)", x.append(3, 0), 1);
         CHECK.is("append(3, 511)", x.append(3, 511), 2);
-        documents(x, 3, 0, 511);
+        CHECK.documents(x, 3, 0, 511);
         for (int wrong : new int[] {-1, 512, 511, 510, 0, Integer.MIN_VALUE, Integer.MAX_VALUE}) {
             CHECK.refuses("append(3, " + wrong + ")", x, Check.ARGUMENT, () -> x.append(3, wrong));
         }
@@ -131,7 +102,7 @@ public final class PromisesTest {
         CHECK.is("appendRange(2, 511, 511, 1)", x.appendRange(2, 511, 511, 1), 1);
         CHECK.is("appendRange(3, 7, 8, 3)", x.appendRange(3, 7, 8, 3), 3);
         CHECK.is("appendRange(3, 24, 1, 2)", x.appendRange(3, 24, 1, 2), 5);
-        documents(x, 3, 7, 15, 23, 24, 25);
+        CHECK.documents(x, 3, 7, 15, 23, 24, 25);
         CHECK.refuses("appendRange from the last", x, Check.ARGUMENT, () -> x.appendRange(3, 25, 1, 1));
         CHECK.refuses("appendRange, 65 in all", x, Check.STATE, () -> x.appendRange(3, 26, 1, 60));
         CHECK.refuses("appendRange, last first", x, Check.ARGUMENT, () -> x.appendRange(3, 25, 1, 60));
@@ -179,7 +150,7 @@ public final class PromisesTest {
         }
         CHECK.refuses("document(0, 0), empty", x, Check.BOUNDS, () -> x.document(0, 0));
         x.appendRange(0, 10, 20, 5);
-        documents(x, 0, 10, 30, 50, 70, 90);
+        CHECK.documents(x, 0, 10, 30, 50, 70, 90);
         for (int index : new int[] {-1, 5, 64, Integer.MIN_VALUE, Integer.MAX_VALUE}) {
             CHECK.refuses("document(0, " + index + ")", x, Check.BOUNDS, () -> x.document(0, index));
         }
@@ -244,9 +215,9 @@ public final class PromisesTest {
         x.appendRange(0, 5, 1, 21);
         x.appendRange(0, 100, 37, 6);
         x.appendRange(1, 3, 3, 30);
-        facts(x, 0, 0, 0, 21, 5, 25, 26, 0);
-        facts(x, 0, 1, 2, 6, 100, 285, 68, 4);
-        facts(x, 1, 0, 1, 30, 3, 90, 114, 0);
+        CHECK.facts(x, 0, 0, 0, 21, 5, 25, 26, 0);
+        CHECK.facts(x, 0, 1, 2, 6, 100, 285, 68, 4);
+        CHECK.facts(x, 1, 0, 1, 30, 3, 90, 114, 0);
         for (int index : new int[] {-1, 2, 64, Integer.MIN_VALUE, Integer.MAX_VALUE}) {
             CHECK.refuses("partition(0, " + index + ", 6)", x, Check.BOUNDS, () -> x.partition(0, index, 6));
         }
@@ -255,25 +226,18 @@ public final class PromisesTest {
         }
         // 6 in 16 places: w = 1, so Elias-Fano has 6 + 7 + 1 + 6 = 20 bits, the bitmap 16.
         x.appendRange(2, 0, 3, 6);
-        facts(x, 2, 0, 1, 6, 0, 15, 42, 0);
+        CHECK.facts(x, 2, 0, 1, 6, 0, 15, 42, 0);
         // 2 in 512 places: w = 8, 2 + 1 + 1 + 16 = 20 bits.
         x.appendRange(3, 0, 511, 2);
-        facts(x, 3, 0, 2, 2, 0, 511, 46, 8);
+        CHECK.facts(x, 3, 0, 2, 2, 0, 511, 46, 8);
         // 2 in 8 places: w = 2, 2 + 1 + 1 + 4 = 8 bits in both kinds, and the lower one is chosen;
         // in 10 places Elias-Fano has 2 + 2 + 1 + 4 = 9 bits.
         x.clear(3);
         x.appendRange(3, 10, 7, 2);
-        facts(x, 3, 0, 1, 2, 10, 17, 34, 0);
+        CHECK.facts(x, 3, 0, 1, 2, 10, 17, 34, 0);
         x.clear(3);
         x.appendRange(3, 10, 9, 2);
-        facts(x, 3, 0, 2, 2, 10, 19, 35, 2);
-    }
-
-    private static void facts(MonotonePostings x, int list, int index, int... due) {
-        for (int what = 0; what < 6; what++) {
-            String call = "partition(" + list + ", " + index + ", " + what + ")";
-            CHECK.is(call, x.partition(list, index, what), due[what]);
-        }
+        CHECK.facts(x, 3, 0, 2, 2, 10, 19, 35, 2);
     }
 
     private static void codeLength() {
@@ -296,17 +260,17 @@ public final class PromisesTest {
         CHECK.refuses("codeBit(0, 0), empty", x, Check.BOUNDS, () -> x.codeBit(0, 0));
         // A run of 21 documents from 5 on.
         x.appendRange(0, 5, 1, 21);
-        bits(x, 0, "00 001010 101000000 001010000");
+        CHECK.bits(x, 0, "00 001010 101000000 001010000");
         // Behind it 6 documents from 100 to 285, w = 4: the high parts of 0, 37, 74, 111, 148 and
         // 185 are 0, 2, 4, 6, 9 and 11, the low parts 0, 5, 10, 15, 4 and 9.
         x.appendRange(0, 100, 37, 6);
-        bits(x, 0, "00 001010 101000000 001010000"
+        CHECK.bits(x, 0, "00 001010 101000000 001010000"
                 + "01 101000 001001100 100111010 100100100100010010 0000 1010 0101 1111 0010 1001");
         // A bitmap of 4 documents from 6 to 11.
         x.append(1, 6);
         x.appendRange(1, 8, 1, 2);
         x.append(1, 11);
-        bits(x, 1, "10 110000 011000000 101000000 101101");
+        CHECK.bits(x, 1, "10 110000 011000000 101000000 101101");
         for (int index : new int[] {-1, 32, 600, Integer.MIN_VALUE, Integer.MAX_VALUE}) {
             CHECK.refuses("codeBit(1, " + index + ")", x, Check.BOUNDS, () -> x.codeBit(1, index));
         }
@@ -353,26 +317,26 @@ public final class PromisesTest {
             CHECK.refuses("nextAtLeast(0, " + wrong + ")", x, Check.ARGUMENT, () -> x.nextAtLeast(0, wrong));
         }
         CHECK.is("nextAtLeast(0, 0), empty", x.nextAtLeast(0, 0), -1);
-        counters(x, "after a query in an empty list", 0, 0, 0);
+        CHECK.counters(x, "after a query in an empty list", 0, 0, 0);
         CHECK.is("undo() of it", x.undo(), 0);
         x.appendRange(0, 0, 1, 20);
         x.appendRange(0, 100, 1, 20);
         x.appendRange(0, 492, 1, 20);
         CHECK.is("nextAtLeast(0, 0)", x.nextAtLeast(0, 0), 0);
-        counters(x, "at the first document", 1, 0, 0);
+        CHECK.counters(x, "at the first document", 1, 0, 0);
         CHECK.is("nextAtLeast(0, 20)", x.nextAtLeast(0, 20), 100);
-        counters(x, "between partitions", 3, 0, 0);
+        CHECK.counters(x, "between partitions", 3, 0, 0);
         CHECK.is("nextAtLeast(0, 511)", x.nextAtLeast(0, 511), 511);
-        counters(x, "in the third, a run", 6, 0, 1);
+        CHECK.counters(x, "in the third, a run", 6, 0, 1);
         CHECK.is("nextAtLeast(0, 19)", x.nextAtLeast(0, 19), 19);
-        counters(x, "in the first, a run", 7, 0, 2);
+        CHECK.counters(x, "in the first, a run", 7, 0, 2);
         CHECK.is("nextAtLeast(0, 493)", x.nextAtLeast(0, 493), 493);
-        counters(x, "in the third again", 10, 1, 2);
+        CHECK.counters(x, "in the third again", 10, 1, 2);
         CHECK.is("cachedAt(0)", x.cachedAt(0), 0);
         CHECK.is("cachedAt(1)", x.cachedAt(1), 2);
         x.appendRange(1, 0, 1, 20);
         CHECK.is("nextAtLeast(1, 20)", x.nextAtLeast(1, 20), -1);
-        counters(x, "behind the last document", 11, 1, 2);
+        CHECK.counters(x, "behind the last document", 11, 1, 2);
     }
 
     private static void nextAtLeastInBitmap() {
@@ -387,7 +351,7 @@ public final class PromisesTest {
             CHECK.is("partition(3, 0, 0)", x.partition(3, 0, 0), 1);
             CHECK.is("partitions(3)", x.partitions(3), 1);
             CHECK.is("nextAtLeast(3, " + d[0] + ")", x.nextAtLeast(3, d[0]), d[1]);
-            counters(x, "after " + d[0], d[2], 0, 1);
+            CHECK.counters(x, "after " + d[0], d[2], 0, 1);
         }
     }
 
@@ -399,7 +363,7 @@ public final class PromisesTest {
             MonotonePostings x = new MonotonePostings();
             x.appendRange(0, 100, 37, 6);
             CHECK.is("nextAtLeast(0, " + d[0] + ")", x.nextAtLeast(0, d[0]), d[1]);
-            counters(x, "after " + d[0], d[2], 0, 1);
+            CHECK.counters(x, "after " + d[0], d[2], 0, 1);
         }
     }
 
@@ -414,7 +378,7 @@ public final class PromisesTest {
         x.appendRange(0, 448, 1, 64);
         CHECK.is("countIntersection(1)", x.countIntersection(1), 64);
         // 64 candidates, the first without opening; none for 512.
-        counters(x, "after one list", 64, 62, 1);
+        CHECK.counters(x, "after one list", 64, 62, 1);
         x.appendRange(1, 0, 73, 8);
         x.append(2, 511);
         CHECK.is("countIntersection(7)", x.countIntersection(7), 1);
@@ -431,19 +395,19 @@ public final class PromisesTest {
         x.append(1, 30);
         x.appendRange(2, 25, 1, 10);
         CHECK.is("countIntersection(7)", x.countIntersection(7), 0);
-        counters(x, "one header in list 1, one in list 0", 2, 0, 0);
+        CHECK.counters(x, "one header in list 1, one in list 0", 2, 0, 0);
         // Of equal ones the lowest number leads: 0 finds 10, 1 answers 20, 0 has no more.
         MonotonePostings y = new MonotonePostings();
         y.append(0, 10);
         y.append(1, 20);
         CHECK.is("countIntersection(3)", y.countIntersection(3), 0);
-        counters(y, "list 0 twice, list 1 once", 3, 0, 0);
+        CHECK.counters(y, "list 0 twice, list 1 once", 3, 0, 0);
         // The lead asks for 20 next, not for 11, and opens its partition once.
         MonotonePostings z = new MonotonePostings();
         z.appendRange(0, 10, 1, 11);
         z.appendRange(1, 20, 1, 12);
         CHECK.is("countIntersection(3)", z.countIntersection(3), 1);
-        counters(z, "10, 20; 20, 20; 21", 5, 0, 1);
+        CHECK.counters(z, "10, 20; 20, 20; 21", 5, 0, 1);
     }
 
     private static void intersect() {
@@ -459,15 +423,15 @@ public final class PromisesTest {
         x.appendRange(2, 400, 1, 10);
         x.nextAtLeast(2, 401);
         CHECK.is("intersect(3, 2)", x.intersect(3, 2), 7);
-        documents(x, 2, 0, 6, 12, 18, 24, 30, 36);
+        CHECK.documents(x, 2, 0, 6, 12, 18, 24, 30, 36);
         CHECK.is("cached(), without the target's", x.cached(), 2);
         CHECK.is("intersect(3, 0), one of them", x.intersect(3, 0), 7);
-        documents(x, 0, 0, 6, 12, 18, 24, 30, 36);
-        documents(x, 1, 0, 3, 6, 9, 12, 15, 18, 21, 24, 27, 30, 33, 36, 39, 42, 45, 48, 51, 54, 57);
+        CHECK.documents(x, 0, 0, 6, 12, 18, 24, 30, 36);
+        CHECK.documents(x, 1, 0, 3, 6, 9, 12, 15, 18, 21, 24, 27, 30, 33, 36, 39, 42, 45, 48, 51, 54, 57);
         CHECK.is("cached(), without the target's", x.cached(), 1);
         CHECK.is("cachedAt(0)", x.cachedAt(0), 100);
         CHECK.is("intersect(9, 1), with an empty one", x.intersect(9, 1), 0);
-        documents(x, 1);
+        CHECK.documents(x, 1);
         CHECK.is("undo()", x.undo(), 3);
         CHECK.is("size(1) again", x.size(1), 20);
     }
@@ -483,11 +447,11 @@ public final class PromisesTest {
         x.appendRange(0, 0, 2, 4);
         x.appendRange(1, 0, 3, 4);
         CHECK.is("unite(0, 1, 2)", x.unite(0, 1, 2), 6);
-        documents(x, 2, 0, 2, 3, 4, 6, 9);
+        CHECK.documents(x, 2, 0, 2, 3, 4, 6, 9);
         CHECK.is("unite(1, 0, 1)", x.unite(1, 0, 1), 6);
-        documents(x, 1, 0, 2, 3, 4, 6, 9);
+        CHECK.documents(x, 1, 0, 2, 3, 4, 6, 9);
         CHECK.is("unite(0, 0, 0)", x.unite(0, 0, 0), 4);
-        documents(x, 0, 0, 2, 4, 6);
+        CHECK.documents(x, 0, 0, 2, 4, 6);
         CHECK.is("unite(3, 0, 0)", x.unite(3, 0, 0), 4);
         x.appendRange(3, 100, 1, 60);
         CHECK.is("unite(3, 0, 2), 64", x.unite(3, 0, 2), 64);
@@ -499,7 +463,7 @@ public final class PromisesTest {
         x.clear(1);
         x.appendRange(1, 200, 1, 64);
         CHECK.refuses("unite(1, 2, 3), 128", x, Check.STATE, () -> x.unite(1, 2, 3));
-        counters(x, "after unite", 0, 0, 0);
+        CHECK.counters(x, "after unite", 0, 0, 0);
         writtenWithoutChange(x, () -> x.unite(1, 1, 1));
     }
 
@@ -525,16 +489,16 @@ public final class PromisesTest {
         x.appendRange(0, 0, 2, 8);
         x.appendRange(1, 0, 3, 4);
         CHECK.is("subtract(0, 1, 2)", x.subtract(0, 1, 2), 6);
-        documents(x, 2, 2, 4, 8, 10, 12, 14);
+        CHECK.documents(x, 2, 2, 4, 8, 10, 12, 14);
         CHECK.is("subtract(1, 0, 0)", x.subtract(1, 0, 0), 2);
-        documents(x, 0, 3, 9);
+        CHECK.documents(x, 0, 3, 9);
         CHECK.is("subtract(1, 0, 1)", x.subtract(1, 0, 1), 2);
-        documents(x, 1, 0, 6);
+        CHECK.documents(x, 1, 0, 6);
         CHECK.is("subtract(2, 3, 3)", x.subtract(2, 3, 3), 6);
-        documents(x, 3, 2, 4, 8, 10, 12, 14);
+        CHECK.documents(x, 3, 2, 4, 8, 10, 12, 14);
         CHECK.is("subtract(2, 2, 2)", x.subtract(2, 2, 2), 0);
-        documents(x, 2);
-        counters(x, "after subtract", 0, 0, 0);
+        CHECK.documents(x, 2);
+        CHECK.counters(x, "after subtract", 0, 0, 0);
         writtenWithoutChange(x, () -> x.subtract(1, 2, 1));
     }
 
@@ -568,25 +532,8 @@ public final class PromisesTest {
         CHECK.is("hits() after undo", x.hits(), 0);
     }
 
-    private static MonotonePostings fourRuns() {
-        MonotonePostings x = new MonotonePostings();
-        for (int list = 0; list < 4; list++) {
-            for (int k = 0; k < 4; k++) {
-                x.appendRange(list, 100 * k, 1, 15);
-            }
-        }
-        return x;
-    }
-
-    private static void cache(MonotonePostings x, String when, int... due) {
-        CHECK.is("cached() " + when, x.cached(), due.length);
-        for (int i = 0; i < due.length && i < x.cached(); i++) {
-            CHECK.is("cachedAt(" + i + ") " + when, x.cachedAt(i), due[i]);
-        }
-    }
-
     private static void setCapacity() {
-        MonotonePostings x = fourRuns();
+        MonotonePostings x = Scenes.fourRuns();
         for (int wrong : new int[] {-1, 9, Integer.MIN_VALUE, Integer.MAX_VALUE}) {
             CHECK.refuses("setCapacity(" + wrong + ")", x, Check.ARGUMENT, () -> x.setCapacity(wrong));
         }
@@ -594,32 +541,32 @@ public final class PromisesTest {
         for (int i = 0; i < 9; i++) {
             x.nextAtLeast(i % 4, 100 * (i / 4) + 1);
         }
-        cache(x, "of 8", 100, 200, 300, 1, 101, 201, 301, 2);
+        CHECK.cache(x, "of 8", 100, 200, 300, 1, 101, 201, 301, 2);
         CHECK.is("setCapacity(8) again", x.setCapacity(8), 8);
         CHECK.is("setCapacity(3)", x.setCapacity(3), 8);
-        cache(x, "of 3", 201, 301, 2);
+        CHECK.cache(x, "of 3", 201, 301, 2);
         CHECK.is("setCapacity(5)", x.setCapacity(5), 3);
-        cache(x, "of 5", 201, 301, 2);
+        CHECK.cache(x, "of 5", 201, 301, 2);
         CHECK.is("setCapacity(0)", x.setCapacity(0), 5);
-        cache(x, "of 0");
+        CHECK.cache(x, "of 0");
         int before = x.reads();
         x.nextAtLeast(0, 1);
         x.nextAtLeast(0, 1);
-        cache(x, "of 0, after queries");
+        CHECK.cache(x, "of 0, after queries");
         CHECK.is("reads() with the capacity 0", x.reads(), before + 2);
         CHECK.is("hits() with the capacity 0", x.hits(), 0);
         x.undo();
         x.undo();
         CHECK.is("undo() of setCapacity(0)", x.undo(), 1);
-        cache(x, "after undo", 201, 301, 2);
+        CHECK.cache(x, "after undo", 201, 301, 2);
         CHECK.is("setCapacity(1) after undo", x.setCapacity(1), 5);
-        cache(x, "of 1", 2);
+        CHECK.cache(x, "of 1", 2);
         x.nextAtLeast(3, 1);
-        cache(x, "of 1, after a query", 300);
+        CHECK.cache(x, "of 1, after a query", 300);
     }
 
     private static void cached() {
-        MonotonePostings x = fourRuns();
+        MonotonePostings x = Scenes.fourRuns();
         for (int k = 0; k < 4; k++) {
             x.nextAtLeast(2, 100 * k);
         }
@@ -633,22 +580,22 @@ public final class PromisesTest {
     }
 
     private static void cachedAt() {
-        MonotonePostings x = fourRuns();
+        MonotonePostings x = Scenes.fourRuns();
         CHECK.refuses("cachedAt(0), empty", x, Check.BOUNDS, () -> x.cachedAt(0));
         x.nextAtLeast(3, 301);
         x.nextAtLeast(1, 1);
         x.nextAtLeast(0, 101);
         x.nextAtLeast(2, 201);
-        cache(x, "when full", 303, 100, 1, 202);
+        CHECK.cache(x, "when full", 303, 100, 1, 202);
         x.nextAtLeast(1, 2);
-        cache(x, "after a hit", 303, 1, 202, 100);
+        CHECK.cache(x, "after a hit", 303, 1, 202, 100);
         x.nextAtLeast(3, 101);
-        cache(x, "after one more", 1, 202, 100, 301);
+        CHECK.cache(x, "after one more", 1, 202, 100, 301);
         for (int index : new int[] {-1, 4, 8, Integer.MIN_VALUE, Integer.MAX_VALUE}) {
             CHECK.refuses("cachedAt(" + index + ")", x, Check.BOUNDS, () -> x.cachedAt(index));
         }
         x.append(2, 400);
-        cache(x, "after a change of list 2", 1, 100, 301);
+        CHECK.cache(x, "after a change of list 2", 1, 100, 301);
         CHECK.refuses("cachedAt(3)", x, Check.BOUNDS, () -> x.cachedAt(3));
     }
 
@@ -663,10 +610,10 @@ public final class PromisesTest {
             CHECK.is("size(0) after undo", x.size(0), 2 + i);
         }
         CHECK.refuses("undo(), none left", x, Check.STATE, x::undo);
-        documents(x, 0, 0, 10);
+        CHECK.documents(x, 0, 0, 10);
         x.append(0, 500);
         CHECK.is("undo() after a new call", x.undo(), 0);
-        documents(x, 0, 0, 10);
+        CHECK.documents(x, 0, 0, 10);
         CHECK.is("nextAtLeast(0, 5)", x.nextAtLeast(0, 5), 10);
         long digest = x.digest();
         x.clear(0);
@@ -677,7 +624,7 @@ public final class PromisesTest {
     }
 
     private static void undoOfEachMethod() {
-        MonotonePostings x = fourRuns();
+        MonotonePostings x = Scenes.fourRuns();
         while (Check.outcome(x::undo).length() == 1) {
             CHECK.is("reads()", x.reads(), 0);
         }
@@ -706,7 +653,7 @@ public final class PromisesTest {
     private static void digest() {
         MonotonePostings x = new MonotonePostings();
         x.append(1, 5);
-        hash(x, "with a run", 0, 0, 1, 5, 1, 0, 1, 5, 5, 26, 0,
+        CHECK.hash(x, "with a run", 0, 0, 1, 5, 1, 0, 1, 5, 5, 26, 0,
                 0, 0, 0, 0, 0, 0, 0, 0, 1, 0, 1, 0, 0, 0, 0, 0, 0, 0, 0, 0, 0, 0, 0, 0, 0, 0,
                 0, 0, 0, 0, 4, 0, 0, 0, 1);
         x.append(1, 7);
@@ -714,7 +661,7 @@ public final class PromisesTest {
         x.nextAtLeast(1, 6);
         x.setCapacity(7);
         x.setCapacity(6);
-        hash(x, "with a bitmap and the cache", 0, 0, 2, 5, 7, 1, 1, 2, 5, 7, 29, 0,
+        CHECK.hash(x, "with a bitmap and the cache", 0, 0, 2, 5, 7, 1, 1, 2, 5, 7, 29, 0,
                 1, 0, 1, 0, 0, 0, 0, 0, 1, 0, 1, 0, 0, 0, 0, 0, 0, 0, 1, 0, 0, 0, 0, 0, 0, 0,
                 1, 0, 1, 0, 0, 0, 0, 6, 1, 100, 3, 1, 4);
         // Two partitions: all their facts come first, then the bits of the whole code.
@@ -738,6 +685,6 @@ public final class PromisesTest {
         }
         values[at] = 4;
         values[values.length - 1] = 2;
-        hash(y, "with two partitions", values);
+        CHECK.hash(y, "with two partitions", values);
     }
 }
